@@ -876,7 +876,9 @@ public final class LampsOfDissent {
             }
             for (int h = 0; h < city.houses && h < MOST_HOUSES; h++) {
                 int moves = h == now.home[who] ? moved : moved + 1;
-                if (moves <= MOST_MOVES) {
+                // where all works can be lit, only a way with fewer moves is better
+                boolean hopeless = way.bestLit == city.works && moves >= way.bestMoved;
+                if (moves <= MOST_MOVES && !hopeless) {
                     int more = way.lightAdded(who, h);
                     way.chosen[who] = h;
                     way.lights[h] += more;
@@ -937,14 +939,17 @@ public final class LampsOfDissent {
                 way.weigh(had);
                 return;
             }
+            Moment here = way.steps[at];
             Moment next = way.steps[at + 1];
             for (int subject = SILENCE; subject < SUBJECTS; subject++) {
-                next.copy(way.steps[at]);
-                int talked = subject == SILENCE ? 0 : 1 << subject & ~next.rations;
-                int light = city.lightOfAll(next, talked);
-                next.goBy(talked);
+                int talked = subject == SILENCE ? 0 : 1 << subject & ~here.rations;
                 way.row[at] = subject;
-                discuss(way, city, hours, at + 1, had + light);
+                // nothing is asked of what comes behind the last hour
+                if (at + 1 < hours) {
+                    next.copy(here);
+                    next.goBy(talked);
+                }
+                discuss(way, city, hours, at + 1, had + city.lightOfAll(here, talked));
             }
         }
 

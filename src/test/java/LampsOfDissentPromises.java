@@ -455,6 +455,12 @@ public final class LampsOfDissentPromises {
         LampsOfDissent x = city("h1;p0,1,3,0;p0,0,3,0;w0,1;s1;s1;s0;");
         x.pass(1);
         due("from now on", x.first(), 1);
+        // found by search; the plain telling of the document answers them alike
+        due("behind 30", city("h1;p3,18,0,0;p1,24,7,0;p3,24,9,0;p1,14,7,0;p1,4,0,0;p2,20,7,0;w0,2;s25;s4;s3;").first(), 30);
+        LampsOfDissent late = city("h1;p3,28,9,0;p1,20,7,0;p2,22,0,0;p0,19,5,0;p0,9,5,0;p3,9,3,0;w0,8;s2;s16;s1;");
+        due("behind 31", late.first(), NONE);
+        late.pass(1);
+        due("then behind 30", late.first(), 30);
     }
 
     private static void homes() {
@@ -552,6 +558,12 @@ public final class LampsOfDissentPromises {
         x.ration(0);
         due("rationed: 3 hours to temper 0", x.settles(), 3);
         due("no hour went by", x.count(3), 0);
+        // found by search; the plain telling of the document answers them alike
+        due("behind 60", city("h1;p2,16,8,0;p0,14,9,0;s2;s0;s16;s0;s2;s0;s0;").settles(), 60);
+        LampsOfDissent late = city("h1;p0,18,9,0;p3,12,4,0;s0;s17;s27;s0;s8;s0;s0;");
+        due("behind 61", late.settles(), NONE);
+        late.pass(1);
+        due("then behind 60", late.settles(), 60);
     }
 
     private static void seenAndForget() {
