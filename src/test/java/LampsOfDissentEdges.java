@@ -1339,8 +1339,9 @@ public final class LampsOfDissentEdges {
         for (int n = 1; n <= 4; n++) {
             due("talk(" + n + ", -1)", x.talk(n, -1), most[n]);
         }
+        LampsOfDissent fierce = city("h1;p3,4,9,0;p3,0,9,0;s0;");
         for (int n = 4; n >= 1; n--) {
-            due("talk(" + n + ", -1) behind one for more HOURS", x.talk(n, -1), most[n]);
+            due("talk(" + n + ", -1) behind one for more HOURS", fierce.talk(n, -1), 5 * n);
         }
         int[] none = {0, -1, 5, LEAST, MOST};
         for (int n : none) {
